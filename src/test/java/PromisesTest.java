@@ -196,6 +196,7 @@ public final class PromisesTest {
         x.head(0, 0, 10);
         due("dig(24, 0) once the head is gone", x.dig(24, 0), 1);
         due("dig(10, 0)", x.dig(10, 0), STATE);
+        due("dig(63, 1)", x.dig(63, 1), 0);
     }
 
     private static void ofCell() {
@@ -448,6 +449,8 @@ public final class PromisesTest {
         due("FOREMAN", hearing(39, 24, 31, 0), 4);
         due("PLUMB of m 8, year 2", hearing(48, 24, 31, 2), 5);
         due("PLUMB of m 8, year 3", hearing(48, 24, 31, 3), 4);
+        due("PLUMB of m 9, year 3", hearing(49, 24, 31, 3), 5);
+        due("PLUMB of m 3, year 4", hearing(43, 24, 31, 4), 4);
         due("ECHO, 7 off, m 6", hearing(56, 24, 31, 0), 1);
         due("ECHO, 7 off, m 7", hearing(57, 24, 31, 0), 0);
         due("CLERK, year 0", hearing(69, 24, 31, 0), 2);
@@ -671,6 +674,8 @@ public final class PromisesTest {
         gives("e=d", 2, 3, 0, 0);
         gives("e&d", 2, 4, 0, 1);
         gives("e&d", 2, 0, 0, 0);
+        gives("e&d", 1, 1, 0, 1);
+        gives("e&d", 0, 1, 0, 0);
         gives("e|d", 0, -3, 0, 1);
         gives("e|d", 0, 0, 0, 0);
         gives("!e", -5, 0, 0, 0);
@@ -765,6 +770,11 @@ public final class PromisesTest {
         due("9960", x.count(1), 9960);
         due("10000", x.years(40), STATE);
         due("61 ahead of that", x.years(61), BEYOND);
+        due("loose beyond 9999", x.loose(40), STATE);
+        x.image();
+        x.seed(1);
+        due("loose to 9999", x.loose(39), 7);
+        x.restore();
         due("9999", x.years(39), 7);
         due("behind it", x.years(1), STATE);
         due("loose behind it", x.loose(1), STATE);
@@ -949,6 +959,22 @@ public final class PromisesTest {
         y.become(0, 20 + y.count(1) % 5);
         // A dreamer turns round: by 0 away by x, by 1 away by y, by 2 (where it was at 0) to 10, nearer.
         due("nearer by 2 alone", y.delayFor(1), 2);
+        // 1 came up to 1 nine years ago and stood at 3 since: a dreamer at 10 is turned to it by 9 alone.
+        TunnelHearsay z = soft();
+        z.delay(0);
+        z.head(0, 0, 3);
+        z.head(1, 0, 0);
+        z.engineer(0, 1);
+        z.years(3);
+        z.years(6);
+        z.change(0, 0);
+        z.become(0, 20 + z.count(1) % 5);
+        z.head(0, 0, 1);
+        due("nearer by 9 alone", z.delayFor(1), 9);
+        TunnelHearsay far = still();
+        far.head(0, 0, 0);
+        far.head(1, 0, 63);
+        due("14 apart by any: the least", far.delayFor(60), 0);
     }
 
     private static void powerFor() {
@@ -973,6 +999,8 @@ public final class PromisesTest {
         due("powerFor(0, 0, -1)", x.powerFor(0, 0, -1), BEYOND);
         due("14", x.powerFor(0, 0, 14), 0);
         due("power stays", x.ofHead(0, 1), 0);
+        give(x, 1, "(p=20)*9");
+        due("20 alone", x.powerFor(0, 1, 6), 20);
     }
 
     private static void needless() {
@@ -1037,6 +1065,8 @@ public final class PromisesTest {
         due("heard(0, 0, 2)", x.heard(0, 0, 2), BEYOND);
         due("heard(0, 0, -1)", x.heard(0, 0, -1), BEYOND);
         due("heard(3, 0, 2), missing", x.heard(3, 0, 2), BEYOND);
+        x.sheet(3, 8, 0);
+        due("the last sheet", x.heard(3, 0, 0), 64);
         due("only thought: at", x.ofHead(1, 0), 31);
         due("only thought: dug", x.count(4), 2);
         // As by head(): the cell is dug then, so that a head without power comes to it.
@@ -1071,6 +1101,8 @@ public final class PromisesTest {
         due("the head of one's side", x.which(0, 0), 1 | 4);
         x.sheet(0, 8, 0);
         due("nothing is told", x.which(0, 0), 127);
+        x.sheet(3, 8, 0);
+        due("the last sheet", x.which(3, 0), 127);
         x.sheet(0, 0, 0);
         due("missing", x.which(0, 0), NONE);
         due("which(4, 0)", x.which(4, 0), BEYOND);
@@ -1107,6 +1139,7 @@ public final class PromisesTest {
         due("no rock", y.join(0, 63), 0);
         y.rock(63, 7);
         due("no rock but at the end", y.join(0, 63), 7);
+        due("no rock but at the beginning", y.join(63, 0), 7);
     }
 
     private static void steps() {
@@ -1127,6 +1160,9 @@ public final class PromisesTest {
         due("not from 31 to the next row", x.steps(31, 32), NONE);
         x.dig(32, 1);
         due("not past the side", x.steps(31, 32), 8 + 4);
+        digAll(x, 63, 62);
+        due("the last cell", x.steps(63, 62), 1);
+        due("to the last cell", x.steps(62, 63), 1);
         due("steps(64, 0)", x.steps(64, 0), BEYOND);
         due("steps(0, 64)", x.steps(0, 64), BEYOND);
         due("steps(-1, 0)", x.steps(-1, 0), BEYOND);
@@ -1167,6 +1203,7 @@ public final class PromisesTest {
         due("round the hill", y.hand(0, 1, 28), 0);
         due("round the hill, by the right side", y.hand(0, 1, 9), 23);
         due("200 times", y.hand(0, 1, 200), 4);
+        due("from the last cell", y.hand(63, 2, 1), 62);
     }
 
     private static void parts() {
@@ -1191,6 +1228,9 @@ public final class PromisesTest {
             z.dig(cell, 1);
         }
         due("all", z.parts(), 1);
+        TunnelHearsay corners = fresh();
+        digAll(corners, 0, 63);
+        due("the first and the last cell, too", corners.parts(), 4);
     }
 
     private static void odds() {
@@ -1390,6 +1430,7 @@ public final class PromisesTest {
         due("down, within", x.move(0, 2, 0, 0, 3), 3);
         rocksAre(x, 0, 2, 3, 4, 3, 4);
         due("none", x.move(0, 5, 1, 3, 0), 0);
+        due("all of it", x.move(1, 0, 1, 0, 3), 3);
         due("no such sheet", x.move(4, 0, 0, 0, 0), BEYOND);
         due("no such other", x.move(3, 0, 4, 0, 0), BEYOND);
         due("no such sheet, -1", x.move(-1, 0, 0, 0, 0), BEYOND);
@@ -1426,6 +1467,8 @@ public final class PromisesTest {
         due("10 is not", x.rocks(0), 0);
         x.sheet(1, 8, 40);
         due("40", x.rocks(1), 40);
+        x.sheet(3, 16, 1);
+        due("the last sheet", x.rocks(3), 1);
         due("39", x.ofCell(39, 0), 0);
         due("41", x.ofCell(41, 0), 1);
         due("no error", x.told(1), 2);
@@ -1452,6 +1495,8 @@ public final class PromisesTest {
         due("the second isn't so", x.judge(0), 1);
         write(x, 0, 16, 2);
         due("no side", x.judge(0), 0);
+        write(x, 3, 16, 1, 0, 1);
+        due("the last sheet", x.judge(3), -1);
     }
 
     private static void image() {
@@ -1602,6 +1647,15 @@ public final class PromisesTest {
         due("count(11)", x.count(11), BEYOND);
         due("count(-1)", x.count(-1), BEYOND);
         due("z below LOW is no error", x.told(1), 2);
+        x.change(0, 1);
+        x.change(1, 0);
+        due("those of side 1", x.count(6), 2);
+        x.change(2, 0);
+        due("0 is of side 1", x.count(6), 1);
+        x.image();
+        x.engineer(0, 1);
+        x.restore();
+        due("none of those who are no more", x.count(6), 1);
     }
 
     private static void told() {
@@ -1627,5 +1681,100 @@ public final class PromisesTest {
         due("told(-1)", x.told(-1), BEYOND);
         due("told(MIN)", x.told(MIN), BEYOND);
         due("counted, too", x.told(1), 5);
+        eachIsCounted();
+    }
+
+    /** Each act counts each of its errors once, under its own number alone. */
+    private static void eachIsCounted() {
+        TunnelHearsay x = fresh();
+        for (int i = 0; i < 8; i++) {
+            x.engineer(0, 0);
+        }
+        for (int i = 0; i < 20; i++) {
+            x.tell(0);
+        }
+        for (int i = 0; i < 6; i++) {
+            x.feed(0L, 8);
+        }
+        x.sheet(0, 8, 1);
+        x.sheet(1, 16, 1);
+        counted(x, 1, x::rock, 64, 0);
+        counted(x, 1, x::dig, 64, 0);
+        counted(x, 3, x::dig, 24, 0);
+        counted(x, 1, x::ofCell, 0, 3);
+        counted(x, 1, (a, b) -> x.head(a, b, 0), 2, 0);
+        counted(x, 1, x::ofHead, 0, 6);
+        counted(x, 1, (a, b) -> x.delay(a), 10, 0);
+        counted(x, 1, x::engineer, 70, 0);
+        counted(x, 4, x::engineer, 0, 0);
+        counted(x, 1, x::ofEngineer, 8, 0);
+        counted(x, 1, x::change, 0, 2);
+        counted(x, 1, x::become, 0, 70);
+        counted(x, 1, x::as, 0, 7);
+        counted(x, 5, x::as, 0, 1);
+        counted(x, 1, (a, b) -> x.feed(0L, a), 9, 0);
+        counted(x, 4, (a, b) -> x.feed(0L, a), 3, 0);
+        counted(x, 1, (a, b) -> x.text(a), 2, 0);
+        counted(x, 1, (a, b) -> x.law(a, 0, 0, 0), 2, 0);
+        counted(x, 1, (a, b) -> x.years(a), 0, 0);
+        counted(x, 1, (a, b) -> x.loose(a), 0, 0);
+        counted(x, 1, (a, b) -> x.then(a, b, 0), 61, 0);
+        counted(x, 1, (a, b) -> x.apart(a), 61, 0);
+        counted(x, 1, (a, b) -> x.delayFor(a), 61, 0);
+        counted(x, 1, (a, b) -> x.powerFor(a, b, 0), 2, 0);
+        counted(x, 2, (a, b) -> x.powerFor(a, b, 0), 0, 0);
+        counted(x, 1, (a, b) -> x.needless(a), 61, 0);
+        counted(x, 1, (a, b) -> x.heard(a, b, 0), 4, 0);
+        counted(x, 2, (a, b) -> x.heard(a, b, 0), 3, 0);
+        x.put(0, 0, 255);
+        counted(x, 2, (a, b) -> x.heard(a, b, 1), 0, 0);
+        counted(x, 1, x::which, 4, 0);
+        counted(x, 2, x::which, 3, 0);
+        counted(x, 1, x::join, 64, 0);
+        counted(x, 1, x::steps, 64, 0);
+        counted(x, 2, x::steps, 0, 0);
+        counted(x, 1, (a, b) -> x.hand(a, b, 0), 0, 4);
+        counted(x, 3, (a, b) -> x.hand(a, b, 0), 0, 0);
+        counted(x, 1, (a, b) -> x.odds(a, b, 0), 31, 0);
+        counted(x, 1, (a, b) -> x.voice(a, b, 0), 8, 0);
+        counted(x, 2, (a, b) -> x.trace(a), 0, 0);
+        counted(x, 1, (a, b) -> x.sheet(0, a, b), 7, 0);
+        counted(x, 3, (a, b) -> x.sheet(0, a, b), 8, -1);
+        counted(x, 1, (a, b) -> x.sheet(0, a, b), 8, 41);
+        counted(x, 1, (a, b) -> x.put(a, b, 0), 4, 0);
+        counted(x, 2, (a, b) -> x.put(a, b, 0), 3, 0);
+        counted(x, 1, (a, b) -> x.put(a, b, 0), 0, 1);
+        counted(x, 1, (a, b) -> x.move(a, 0, b, 0, 0), 4, 0);
+        counted(x, 2, (a, b) -> x.move(a, 0, b, 0, 0), 3, 0);
+        counted(x, 5, (a, b) -> x.move(a, 0, b, 0, 0), 1, 0);
+        counted(x, 1, (a, b) -> x.move(a, 0, b, 0, 2), 0, 0);
+        counted(x, 1, (a, b) -> x.rocks(a), 4, 0);
+        counted(x, 2, (a, b) -> x.rocks(a), 3, 0);
+        counted(x, 1, (a, b) -> x.judge(a), 4, 0);
+        counted(x, 2, (a, b) -> x.judge(a), 3, 0);
+        counted(x, 2, (a, b) -> x.restore(), 0, 0);
+        counted(x, 4, (a, b) -> x.tell(a), 0, 0);
+        counted(x, 1, (a, b) -> x.count(a), 11, 0);
+        counted(x, 1, (a, b) -> x.told(a), 0, 0);
+        TunnelHearsay alone = fresh();
+        counted(alone, 2, (a, b) -> alone.meets(), 0, 0);
+        for (int i = 0; i < 166; i++) {
+            alone.years(60);
+        }
+        counted(alone, 3, (a, b) -> alone.years(a), 40, 0);
+        counted(alone, 3, (a, b) -> alone.loose(a), 40, 0);
+    }
+
+    private static void counted(TunnelHearsay x, int error, java.util.function.IntBinaryOperator act, int a, int b) {
+        int[] before = new int[6];
+        for (int k = 1; k <= 5; k++) {
+            before[k] = x.told(k);
+        }
+        before[error]++;
+        due("an act that fails", act.applyAsInt(a, b), LOW - error);
+        // An object is used for 512 calls alone: the error's own count, and the next one's.
+        due("counted under " + error, x.told(error), before[error]);
+        int next = error % 5 + 1;
+        due("not counted under " + next, x.told(next), before[next]);
     }
 }
