@@ -2,136 +2,53 @@
  * Each promise by itself, with answers worked out by hand from the document: ordinary inputs, the
  * edges that it names, wrong inputs, and that a wrong input changes nothing.
  */
-public final class PromisesTest {
-    private static final int LOW = -1000000000;
-    private static final int BEYOND = LOW - 1;
-    private static final int NONE = LOW - 2;
-    private static final int STATE = LOW - 3;
-    private static final int FULL = LOW - 4;
-    private static final int KIND = LOW - 5;
-    private static final int MAX = Integer.MAX_VALUE;
-    private static final int MIN = Integer.MIN_VALUE;
-
-    private static int wrong;
-    private static int asked;
-    private static int promise;
-
+public final class PromisesTest extends Asking {
     public static void main(String[] args) {
-        promise = 1; newObject();
-        promise = 2; rock();
-        promise = 3; dig();
-        promise = 4; ofCell();
-        promise = 5; head();
-        promise = 6; ofHead();
-        promise = 7; delay();
-        promise = 8; engineer();
-        promise = 9; ofEngineer(); points(); ears();
-        promise = 10; change();
-        promise = 11; become();
-        promise = 12; as();
-        promise = 13; feed();
-        promise = 14; text();
-        promise = 15; law();
-        promise = 16; years(); yearsEnd(); meeting();
-        promise = 17; loose();
-        promise = 18; then();
-        promise = 19; meets();
-        promise = 20; apart();
-        promise = 21; delayFor();
-        promise = 22; powerFor();
-        promise = 23; needless();
-        promise = 24; heard();
-        promise = 25; which();
-        promise = 26; join();
-        promise = 27; steps();
-        promise = 28; hand();
-        promise = 29; parts();
-        promise = 30; odds();
-        promise = 31; seed();
-        promise = 32; voice();
-        promise = 33; trace();
-        promise = 34; sheet();
-        promise = 35; put();
-        promise = 36; move();
-        promise = 37; rocks();
-        promise = 38; judge();
-        promise = 39; image();
-        promise = 40; restore();
-        promise = 41; tell();
-        promise = 42; check();
-        promise = 43; count();
-        promise = 44; told();
-        System.out.println(wrong == 0 ? "all " + asked + " answers are as due" : wrong + " answers are not as due");
-        if (wrong != 0) {
-            System.exit(1);
-        }
-    }
-
-    private static void due(String call, long got, long want) {
-        asked++;
-        if (got != want) {
-            wrong++;
-            System.out.println("promise " + promise + ": " + call + " answered " + got + ", due is " + want);
-        }
-    }
-
-    // ---- how the tests set things up
-
-    private static TunnelHearsay fresh() {
-        return new TunnelHearsay();
-    }
-
-    private static void feedAll(TunnelHearsay x, String text) {
-        for (int i = 0; i < text.length(); i += 8) {
-            int n = Math.min(8, text.length() - i);
-            long word = 0;
-            for (int k = n - 1; k >= 0; k--) {
-                word = word << 8 | text.charAt(i + k);
-            }
-            x.feed(word, n);
-        }
-    }
-
-    private static int give(TunnelHearsay x, int use, String text) {
-        feedAll(x, text);
-        return x.text(use);
-    }
-
-    /** All rock is 9 and nobody digs: years pass, and a head goes only where it is dug. */
-    private static TunnelHearsay still() {
-        TunnelHearsay x = hard();
-        give(x, 1, "0");
-        return x;
-    }
-
-    private static TunnelHearsay hard() {
-        TunnelHearsay x = fresh();
-        for (int cell = 0; cell < 64; cell++) {
-            x.rock(cell, 9);
-        }
-        return x;
-    }
-
-    /** No rock at all: a head goes one cell a year. */
-    private static TunnelHearsay soft() {
-        TunnelHearsay x = fresh();
-        for (int cell = 0; cell < 64; cell++) {
-            x.rock(cell, 0);
-        }
-        return x;
-    }
-
-    private static void digAll(TunnelHearsay x, int... cells) {
-        for (int cell : cells) {
-            x.dig(cell, 1);
-        }
-    }
-
-    private static void write(TunnelHearsay x, int sheet, int bits, int... numbers) {
-        x.sheet(sheet, bits, numbers.length);
-        for (int i = 0; i < numbers.length; i++) {
-            x.put(sheet, i, numbers[i]);
-        }
+        says("promise 1"); newObject();
+        says("promise 2"); rock();
+        says("promise 3"); dig();
+        says("promise 4"); ofCell();
+        says("promise 5"); head();
+        says("promise 6"); ofHead();
+        says("promise 7"); delay();
+        says("promise 8"); engineer();
+        says("promise 9"); ofEngineer(); points(); ears();
+        says("promise 10"); change();
+        says("promise 11"); become();
+        says("promise 12"); as();
+        says("promise 13"); feed();
+        says("promise 14"); text();
+        says("promise 15"); law();
+        says("promise 16"); years(); yearsEnd(); meeting();
+        says("promise 17"); loose();
+        says("promise 18"); then();
+        says("promise 19"); meets();
+        says("promise 20"); apart();
+        says("promise 21"); delayFor();
+        says("promise 22"); powerFor();
+        says("promise 23"); needless();
+        says("promise 24"); heard();
+        says("promise 25"); which();
+        says("promise 26"); join();
+        says("promise 27"); steps();
+        says("promise 28"); hand();
+        says("promise 29"); parts();
+        says("promise 30"); odds();
+        says("promise 31"); seed();
+        says("promise 32"); voice();
+        says("promise 33"); trace();
+        says("promise 34"); sheet();
+        says("promise 35"); put();
+        says("promise 36"); move();
+        says("promise 37"); rocks();
+        says("promise 38"); judge();
+        says("promise 39"); image();
+        says("promise 40"); restore();
+        says("promise 41"); tell();
+        says("promise 42"); check();
+        says("promise 43"); count();
+        says("promise 44"); told();
+        end();
     }
 
     // ---- the hill, heads
