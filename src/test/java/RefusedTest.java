@@ -28,6 +28,7 @@ public final class RefusedTest extends Asking {
         errorsInOrder();
         errorsOfSheetsInOrder();
         noErrors();
+        askingChangesNothing();
         end();
     }
 
@@ -596,6 +597,37 @@ public final class RefusedTest extends Asking {
         says("told: how many acts have answered an ERROR");
         for (int k = 1; k <= 5; k++) {
             due("told(" + k + ")", x.told(k), 0);
+        }
+    }
+
+    // ---- what only asks
+
+    private static void askingChangesNothing() {
+        says("(All this is only thought); what only asks changes nothing, not even what told() tells");
+        Call[] asks = {
+            new Call("ofCell", 24, 2), new Call("ofHead", 0, 4), new Call("ofHead", 1, 5), new Call("ofEngineer", 0, 3),
+            new Call("ofEngineer", 1, 4), new Call("as", 0, 0), new Call("law", 0, 1, 2, 3), new Call("law", 1, 1, 2, 3),
+            new Call("then", 60, 0, 0), new Call("then", 60, 1, 1), new Call("meets"), new Call("apart", 60),
+            new Call("delayFor", 60), new Call("powerFor", 0, 60, 14), new Call("powerFor", 1, 60, 14),
+            new Call("needless", 60), new Call("heard", 0, 0, 0), new Call("heard", 1, 1, 0), new Call("which", 0, 0),
+            new Call("which", 0, 1), new Call("join", 0, 63), new Call("steps", 24, 24), new Call("hand", 24, 1, 200),
+            new Call("parts"), new Call("odds", 30, 14, 0), new Call("odds", 30, 0, 1), new Call("trace", 0),
+            new Call("judge", 0), new Call("judge", 1), new Call("count", 3), new Call("count", 10), new Call("told", 1),
+        };
+        for (Call ask : asks) {
+            due(ask + " changes", changes(RefusedTest::furnish, ask) ? 1 : 0, 0);
+        }
+        Call[] asksOfLength = {new Call("heard", 3, 0, 1), new Call("which", 3, 2)};
+        for (Call ask : asksOfLength) {
+            due(ask + " changes", changes(RefusedTest::longSheet, ask) ? 1 : 0, 0);
+        }
+    }
+
+    private static void longSheet(TunnelHearsay x) {
+        furnish(x);
+        x.sheet(3, 8, 40);
+        for (int i = 0; i < 40; i++) {
+            x.put(3, i, x.then(i + 1, 0, 0));
         }
     }
 }
