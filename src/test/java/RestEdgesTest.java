@@ -463,8 +463,10 @@ public final class RestEdgesTest extends Asking {
         x.engineer(0, 1);
         x.become(0, 69);
         x.change(0, 1);
+        x.text(1);
         give(x, 0, "9");
         give(x, 1, "9");
+        due("other texts", x.law(0, 0, 0, 0) + x.law(1, 0, 0, 0), 18);
         x.check();
         x.seed(1);
         x.delay(9);

@@ -226,6 +226,9 @@ public final class TextEdgesTest extends Asking {
             fault(0, "1" + sign, 2);
             fault(0, "1" + sign + sign + "2", 2);
             fault(0, "1" + sign + ")", 2);
+            fault(0, "(1" + sign + "2)", SOUND);
+            fault(0, "!(1" + sign + "2" + sign + "3)", SOUND);
+            fault(0, "(1" + sign + ")", 3);
         }
         worth("20-7-5", 0, 0, 0, 8);
         worth("20-(7-5)", 0, 0, 0, 18);
@@ -384,6 +387,12 @@ public final class TextEdgesTest extends Asking {
                 worth("e>d", a, b, 0, a > b ? 1 : 0);
             }
         }
+        worth("5+(0|0)", 0, 0, 0, 5);
+        worth("5+(0&1)", 0, 0, 0, 5);
+        worth("5+(1<1)", 0, 0, 0, 5);
+        worth("5+(1=2)", 0, 0, 0, 5);
+        worth("5+(1>1)", 0, 0, 0, 5);
+        worth("5+!7", 0, 0, 0, 5);
     }
 
     private static void held() {

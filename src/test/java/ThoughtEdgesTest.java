@@ -7,6 +7,7 @@ public final class ThoughtEdgesTest extends Asking {
         says("meets: NONE: not by 60"); meetsTooLate();
         says("APART by n (0 to 60)"); apart();
         says("DELAY by n (0 to 60): that (0 to 9) with which APART by n is least"); delayFor();
+        says("DELAY by n: 13 is less than 14"); delayForFarApart();
         says("DELAY by n: of several the least"); delayForLeast();
         says("POWER for a HEAD, n (0 to 60), v (0 to 14): the least (0 to 20)"); powerFor();
         says("powerFor: NONE: with none"); powerForNone();
@@ -188,6 +189,19 @@ public final class ThoughtEdgesTest extends Asking {
         due("delay is as it was", y.count(2), 0);
         due("-1", y.delayFor(-1), BEYOND);
         due("61", y.delayFor(61), BEYOND);
+    }
+
+    /** Head 1 went along the last row from 63 to 56; a foreman at 7 turns past the border by 0 alone. */
+    private static void delayForFarApart() {
+        TunnelHearsay x = headsAt(soft(), 56, 63);
+        x.delay(0);
+        x.engineer(0, 1);
+        x.years(7);
+        x.head(0, 0, 7);
+        x.change(0, 0);
+        x.become(0, 39);
+        due("14 apart", x.apart(1), 14);
+        due("13 by 1", x.delayFor(1), 1);
     }
 
     private static void delayForLeast() {
