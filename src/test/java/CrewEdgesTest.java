@@ -268,6 +268,12 @@ public final class CrewEdgesTest extends Asking {
         due("FAR 9, m 9", ears(59, 0, 58, 0), 0);
         due("FAR 10, m 9", ears(59, 0, 59, 0), 1);
         due("FAR 14, m 9", ears(59, 0, 63, 0), 1);
+        TunnelHearsay x = still();
+        x.engineer(57, 0);
+        give(x, 0, "e+5");
+        due("0, no less", x.ofEngineer(0, 4), 5);
+        x.become(0, 56);
+        due("1, no more", x.ofEngineer(0, 4), 6);
     }
 
     private static void restByEight() {

@@ -8,13 +8,7 @@ import java.util.Random;
  * Long runs of drawn calls (the draws are the same each time), each answer beside that of a model which
  * was written from the document by other means: kinds as classes, all years kept, texts worked out as they stand.
  */
-public final class ModelTest {
-    private static final int LOW = -1000000000;
-    private static final int BEYOND = LOW - 1;
-    private static final int NONE = LOW - 2;
-    private static final int STATE = LOW - 3;
-    private static final int FULL = LOW - 4;
-    private static final int KIND = LOW - 5;
+public final class ModelTest extends Asking {
     private static final int RUNS = 500;
     private static final int CALLS = 512;
 
