@@ -31,7 +31,9 @@ public final class FaceTest {
     public static void main(String[] args) throws Exception {
         face();
         classesInside();
-        words(Files.readString(Path.of("src/main/java/TunnelHearsay.java")));
+        String source = Files.readString(Path.of("src/main/java/TunnelHearsay.java"));
+        words(source);
+        lengths(source.split("\n"));
         System.out.println(wrong == 0 ? "the face is as due" : wrong + " things of the face are not as due");
         if (wrong != 0) {
             System.exit(1);
@@ -57,10 +59,7 @@ public final class FaceTest {
         Class<?> c = TunnelHearsay.class;
         due(Modifier.isPublic(c.getModifiers()) && Modifier.isFinal(c.getModifiers()), "the class isn't public and final");
         Set<String> open = new TreeSet<>();
-        Set<String> names = new TreeSet<>();
-        for (String row : FACE) {
-            names.add(row.substring(0, row.indexOf('(')));
-        }
+        Set<String> names = namesOfFace();
         for (Method method : c.getDeclaredMethods()) {
             if (Modifier.isPrivate(method.getModifiers())) {
                 due(!names.contains(method.getName()), "a private method bears a public name: " + method);
@@ -79,6 +78,14 @@ public final class FaceTest {
         }
     }
 
+    private static Set<String> namesOfFace() {
+        Set<String> names = new TreeSet<>();
+        for (String row : FACE) {
+            names.add(row.substring(0, row.indexOf('(')));
+        }
+        return names;
+    }
+
     private static void classesInside() {
         Class<?>[] inside = TunnelHearsay.class.getDeclaredClasses();
         due(inside.length < 12, "more than twelve classes");
@@ -93,6 +100,7 @@ public final class FaceTest {
             due(fields <= 20, c + " has more than twenty fields");
             for (Method method : c.getDeclaredMethods()) {
                 due(method.getParameterCount() <= 7, "more than seven parameters: " + method);
+                due(!namesOfFace().contains(method.getName()), "inside, with a public name: " + method);
             }
         }
     }
@@ -110,5 +118,22 @@ public final class FaceTest {
         for (char sign : source.toCharArray()) {
             due(sign < 128, "a sign above 127: " + (int) sign);
         }
+    }
+
+    /** A method begins with a row that ends in ") {", and ends with the next brace that stands as far in. */
+    private static void lengths(String[] rows) {
+        int methods = 0;
+        for (int i = 0; i < rows.length; i++) {
+            Matcher head = Pattern.compile("((?: {4}){1,2})[\\w\\[\\] ]+\\([\\w\\[\\], ]*\\) \\{").matcher(rows[i]);
+            if (head.matches() && !rows[i].trim().startsWith("if") && !rows[i].trim().startsWith("switch")) {
+                int end = i;
+                while (end < rows.length && !rows[end].equals(head.group(1) + "}")) {
+                    end++;
+                }
+                methods++;
+                due(end - i < 60, "longer than sixty rows: " + rows[i].trim());
+            }
+        }
+        due(methods > FACE.length, "only " + methods + " methods were found in the source");
     }
 }
